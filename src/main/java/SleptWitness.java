@@ -162,14 +162,14 @@ public final class SleptWitness {
         private int lain;
         private long wokenIn;
 
-        void pass(Sleeper one, Deeds row, int least, int since) {
+        void pass(Sleeper one, Deeds row, int[] rules) {
             lieDown(one);
             for (int k = 0; k < row.size; k++) {
                 meet(one, row, row.order[k]);
             }
             testimony = 0;
             for (int d = 0; d < row.size; d++) {
-                if (fate[d] == MARK && deep[d] >= least && !wokenOfLate(row.hour[d], since)) {
+                if (testifies(fate[d], deep[d], row.hour[d], rules)) {
                     testimony |= 1 << d;
                 }
             }
@@ -179,7 +179,7 @@ public final class SleptWitness {
          * HOURS, as bits, in which it would TESTIFY to one more DEED, told behind all others:
          * as the last of its HOUR it changes nothing that counts for itself.
          */
-        long hoursFor(Sleeper one, Deeds row, int house, int sound, int least, int since) {
+        long hoursFor(Sleeper one, Deeds row, int house, int sound, int[] rules) {
             lieDown(one);
             int itsLoud = loudAt(one.house, house, sound);
             long hours = 0L;
@@ -189,7 +189,7 @@ public final class SleptWitness {
                     meet(one, row, row.order[k]);
                 }
                 int itsDeep = one.deepAfter(hour - lain);
-                if (fateBy(itsLoud, itsDeep) == MARK && itsDeep >= least && !wokenOfLate(hour, since)) {
+                if (testifies(fateBy(itsLoud, itsDeep), itsDeep, hour, rules)) {
                     hours |= 1L << hour;
                 }
             }
@@ -240,6 +240,10 @@ public final class SleptWitness {
                 return AWAKE;
             }
             return loud >= deep + WAKES_BY ? WOKEN : MARK;
+        }
+
+        private boolean testifies(int itsFate, int itsDeep, int hour, int[] rules) {
+            return itsFate == MARK && itsDeep >= rules[LEAST] && !wokenOfLate(hour, rules[SINCE]);
         }
 
         private boolean wokenOfLate(int hour, int since) {
@@ -451,25 +455,16 @@ public final class SleptWitness {
 
     // ---- nights
 
-    private void sleepThrough(Sleeper one, Deeds row) {
-        night.pass(one, row, rules[LEAST], rules[SINCE]);
-    }
-
     private void hearAll(Deeds row) {
         hearing.open();
         for (int s = 0; s < sleepers; s++) {
-            sleepThrough(beds[s], row);
+            night.pass(beds[s], row, rules);
             hearing.add(night);
         }
     }
 
     private int provenOf(Deeds row) {
         return hearing.provenOf(row.size, rules[PROOF]);
-    }
-
-    private int witnesses(int deed) {
-        hearAll(deeds);
-        return hearing.witnesses(deed);
     }
 
     public int depth(int hour, int sleeper) {
@@ -483,7 +478,7 @@ public final class SleptWitness {
         if (!within(deed, deeds.size) || !within(sleeper, sleepers)) {
             return BAD;
         }
-        sleepThrough(beds[sleeper], deeds);
+        night.pass(beds[sleeper], deeds, rules);
         switch (what) {
             case 0: return night.loud[deed];
             case 1: return night.fate[deed];
@@ -496,7 +491,8 @@ public final class SleptWitness {
         if (!within(deed, deeds.size)) {
             return BAD;
         }
-        int who = witnesses(deed);
+        hearAll(deeds);
+        int who = hearing.witnesses(deed);
         int lacks = Math.max(0, rules[PROOF] - Integer.bitCount(who));
         switch (what) {
             case 0: return who;
@@ -510,7 +506,7 @@ public final class SleptWitness {
         if (!within(sleeper, sleepers)) {
             return BAD;
         }
-        sleepThrough(beds[sleeper], deeds);
+        night.pass(beds[sleeper], deeds, rules);
         switch (what) {
             case 0: return night.wakings;
             case 1: return Integer.bitCount(night.testimony);
@@ -522,7 +518,7 @@ public final class SleptWitness {
         int best = NONE;
         int most = -1;
         for (int s = 0; s < sleepers; s++) {
-            sleepThrough(beds[s], deeds);
+            night.pass(beds[s], deeds, rules);
             int many = Integer.bitCount(night.testimony);
             if (many > most) {
                 most = many;
@@ -549,7 +545,7 @@ public final class SleptWitness {
     }
 
     private int seenBy(int sleeper) {
-        sleepThrough(beds[sleeper], deeds);
+        night.pass(beds[sleeper], deeds, rules);
         int seen = 0;
         for (int d = 0; d < deeds.size; d++) {
             if (night.fate[d] == AWAKE || night.fate[d] == WOKEN) {
@@ -569,7 +565,7 @@ public final class SleptWitness {
             return NOT;
         }
         for (int s = 0; s < sleepers; s++) {
-            hoursFor[s] = night.hoursFor(beds[s], deeds, house, sound, rules[LEAST], rules[SINCE]);
+            hoursFor[s] = night.hoursFor(beds[s], deeds, house, sound, rules);
         }
         int many = 0;
         for (int hour = 0; hour < HOURS; hour++) {
@@ -601,7 +597,7 @@ public final class SleptWitness {
         int most = -1;
         for (int house = 0; house < HOUSES; house++) {
             guess.house = house;
-            sleepThrough(guess, deeds);
+            night.pass(guess, deeds, rules);
             hearing.testimonies[sleeper] = night.testimony;
             int many = provenOf(deeds);
             if (many > most) {
@@ -617,7 +613,8 @@ public final class SleptWitness {
         if (!within(deed, deeds.size) || i != NONE && !within(i, 2)) {
             return BAD;
         }
-        int who = witnesses(deed);
+        hearAll(deeds);
+        int who = hearing.witnesses(deed);
         int many = Math.max(0, Integer.bitCount(who) - rules[PROOF] + 1);
         if (many > 2) {
             return NONE;
@@ -650,7 +647,7 @@ public final class SleptWitness {
         int most = -1;
         for (int supper = 0; supper < SUPPERS; supper++) {
             guess.supper = supper;
-            sleepThrough(guess, deeds);
+            night.pass(guess, deeds, rules);
             int many = Integer.bitCount(night.testimony);
             if (many > most) {
                 most = many;
@@ -703,7 +700,7 @@ public final class SleptWitness {
             if (tales.who[t] >= sleepers) {
                 return false;
             }
-            sleepThrough(beds[tales.who[t]], others);
+            night.pass(beds[tales.who[t]], others, rules);
             if (night.marksOf[tales.sound[t]] != tales.marks[t]) {
                 return false;
             }
@@ -758,7 +755,7 @@ public final class SleptWitness {
         for (int d = 0; d < deeds.size; d++) {
             if ((open >> d & 1) != 0) {
                 others.become(deeds, d);
-                sleepThrough(beds[sleeper], others);
+                night.pass(beds[sleeper], others, rules);
                 alike[night.marks]++;
                 most = Math.max(most, alike[night.marks]);
             }
@@ -770,14 +767,15 @@ public final class SleptWitness {
         if (!within(c, SIXTEENTHS + 1) || !within(deed, deeds.size) || !within(what, 2)) {
             return longRefusal(BAD);
         }
-        int many = Integer.bitCount(witnesses(deed));
+        hearAll(deeds);
+        int many = Integer.bitCount(hearing.witnesses(deed));
         spreadWays(many, c);
         long above = 0L;
         for (int k = rules[PROOF]; k <= many; k++) {
             above += ways[k];
         }
-        long below = above == 0L ? 1L : 1L << 4 * many;
-        // What stands below is a power of 2, so halving is all there is to lowest terms.
+        long below = 1L << 4 * many;
+        // What stands below is a power of 2, so halving is all there is to lowest terms (0 by 1, too).
         for (int k = 0; k < 4 * MOST && below > 1L && (above & 1L) == 0L; k++) {
             above >>= 1;
             below >>= 1;
