@@ -55,26 +55,50 @@ final class Due {
     void found(String call, Supplier<SleptWitness> maker, ToLongFunction<SleptWitness> act, long want, int number) {
         SleptWitness x = maker.get();
         String before = state(x);
+        // Another FINDING first, so that the one due can be told from it.
         if (number != 5) {
             x.sheet(0, 0, -1);
+        } else {
+            x.get(0, 0, -1);
         }
         is(call, act.applyAsLong(x), want);
         is(call + ", then count(8)", x.count(8), number);
         holds(call + " changes nothing", before.equals(state(x)));
     }
 
-    /** What can be asked of the state, but for count() 8, which asking for items may change. */
-    private static String state(SleptWitness x) {
+    /** What can be asked of the state, but for count() 8, which asking for items changes. */
+    static String state(SleptWitness x) {
         StringBuilder all = new StringBuilder();
         all.append(x.digest());
+        for (int what = 0; what < 3; what++) {
+            int v = x.law(what, 1);
+            x.law(what, v);
+            all.append(" law ").append(v);
+        }
         for (int s = 0; s < 4; s++) {
+            all.append(" sheet");
             for (int form = 0; form < 3; form++) {
-                for (int i = 0; i < 5; i++) {
-                    all.append(' ').append(x.get(s, form, i));
-                }
+                addItems(x, s, form, all);
             }
         }
         return all.toString();
+    }
+
+    /** The items of a SHEET as of a FORM, and the FINDING at which they end. */
+    private static void addItems(SleptWitness x, int s, int form, StringBuilder all) {
+        for (int i = 0; i <= 60; i++) {
+            x.sheet(0, 0, -1);
+            int item = x.get(s, form, i);
+            if (x.count(8) != 5) {
+                all.append(" end ").append(x.count(8));
+                return;
+            }
+            all.append(' ').append(item);
+        }
+    }
+
+    int asked() {
+        return asked;
     }
 
     void end(String name) {
